@@ -1,0 +1,120 @@
+import java.lang.reflect.Constructor;
+import java.lang.reflect.Field;
+import java.lang.reflect.Method;
+import java.lang.reflect.Modifier;
+import java.nio.file.Files;
+import java.nio.file.Path;
+import java.util.ArrayList;
+import java.util.Arrays;
+import java.util.List;
+import java.util.Set;
+import java.util.TreeSet;
+import java.util.regex.Matcher;
+import java.util.regex.Pattern;
+
+/** The public face, the rules of the language that can be read off, and calls with any numbers. */
+public final class FaceAndRulesTest {
+  private static final String FACE = "act(int,int)int actOf(int,int,int)int actsOf(int,int)int answer(int)int answers()int "
+    + "ask(int,int,int,int)int at(int,int)int closed(int)long count(int)int fresh(int)boolean heap(int)int heaps()int "
+    + "keeps(int,int)int law(int,int)int lawOf(int)long laws(int)int made(int)int madeOf(int,int,int)int narrowed(int)int "
+    + "pairing(int)int pairings()int quick(int)long riddle(int)boolean row(int,int,int)int signs(int)int size(int,int)int "
+    + "tear(int)boolean whole()int write(int,int,long)int";
+  private static final String[] BARRED = {"throw", "throws", "try", "catch", "synchronized", "assert", "->", "::",
+    "Exact", "volatile", "System.currentTimeMillis", "Random", "Thread", "protected"};
+  private static int wrong = 0;
+
+  public static void main(String[] args) throws Exception {
+    face();
+    source();
+    anyNumbers();
+    System.out.println("the face, the rules and calls with any numbers: " + wrong + " wrong");
+    if (wrong != 0) System.exit(1);
+  }
+
+  private static void say(boolean fine, String what) {
+    if (!fine) {
+      wrong++;
+      System.out.println(what);
+    }
+  }
+
+  private static void face() {
+    Set<String> open = new TreeSet<>();
+    Set<String> hidden = new TreeSet<>();
+    for (Method m : ActBench.class.getDeclaredMethods()) {
+      List<String> types = new ArrayList<>();
+      for (Class<?> type : m.getParameterTypes()) types.add(type.getName());
+      if (Modifier.isPublic(m.getModifiers())) {
+        open.add(m.getName() + "(" + String.join(",", types) + ")" + m.getReturnType().getName());
+      } else {
+        say(Modifier.isPrivate(m.getModifiers()), m + " is seen from outside");
+        hidden.add(m.getName());
+      }
+    }
+    say(open.equals(new TreeSet<>(Arrays.asList(FACE.split(" ")))), "the face is " + open);
+    for (Class<?> inside : ActBench.class.getDeclaredClasses()) {
+      say(Modifier.isStatic(inside.getModifiers()), inside + " is not static");
+      for (Method m : inside.getDeclaredMethods()) hidden.add(m.getName());
+    }
+    for (String name : hidden) say(!(" " + FACE).contains(" " + name + "("), name + " has the name of a public one");
+    for (Field f : ActBench.class.getDeclaredFields()) {
+      boolean isConstant = f.getName().equals("NONE");
+      say(isConstant == Modifier.isPublic(f.getModifiers()) && isConstant != Modifier.isPrivate(f.getModifiers()), "field " + f);
+      say(!Modifier.isStatic(f.getModifiers()) || Modifier.isFinal(f.getModifiers()), "static field " + f);
+    }
+    Constructor<?>[] constructors = ActBench.class.getDeclaredConstructors();
+    say(constructors.length == 1 && Modifier.isPublic(constructors[0].getModifiers()), "the constructor");
+    say(Modifier.isFinal(ActBench.class.getModifiers()), "the class is not final");
+    say(ActBench.class.getDeclaredClasses().length < 13, "too many classes");
+  }
+
+  private static void source() throws Exception {
+    String text = Files.readString(Path.of("src/main/java/ActBench.java"));
+    String code = text.replaceAll("(?s)/\\*.*?\\*/", "").replaceAll("//[^\n]*", "");
+    for (String word : BARRED) {
+      boolean isWord = Character.isLetter(word.charAt(0));
+      Matcher found = Pattern.compile((isWord ? "\\b" : "") + Pattern.quote(word)).matcher(code);
+      say(!found.find(), "the source has " + word);
+    }
+    Matcher imports = Pattern.compile("import ([^;]+);").matcher(code);
+    while (imports.find()) say(imports.group(1).equals("java.util.Arrays"), "import " + imports.group(1));
+  }
+
+  /** Whatever the arguments are, an answer comes; a throw would end this test. */
+  private static void anyNumbers() throws Exception {
+    int[] odd = {Integer.MIN_VALUE, Integer.MIN_VALUE + 1, -65, -2, -1, 0, 1, 2, 3, 4, 7, 8, 12, 13, 26, 27, 31, 32, 40, 41, 64,
+      256, 6561, 19683, Integer.MAX_VALUE - 1, Integer.MAX_VALUE};
+    for (int state = 0; state < 4; state++) {
+      for (Method m : ActBench.class.getDeclaredMethods()) {
+        if (!Modifier.isPublic(m.getModifiers())) continue;
+        for (int from = 0; from < odd.length; from++) {
+          ActBench bench = inState(state);
+          for (int call = 0; call < 100; call++) {
+            Object[] given = new Object[m.getParameterCount()];
+            for (int p = 0; p < given.length; p++) {
+              int number = odd[(from + call * (3 * p + 1) + p * 7) % odd.length];
+              given[p] = m.getParameterTypes()[p] == long.class ? (Object) (number * 4294967297L) : (Object) number;
+            }
+            m.invoke(bench, given);
+            if (given.length == 0) break;
+          }
+        }
+      }
+    }
+  }
+
+  private static ActBench inState(int state) {
+    ActBench bench = new ActBench();
+    if (state == 0) return bench;
+    bench.fresh(state == 1 ? 2 : 3);
+    bench.row(0, 0, 40);
+    for (int i = 0; i < 40; i++) bench.write(0, i, i == 0 && state == 3 ? 2 : i % (state == 1 ? 2 : 3));
+    for (int k = 1; k <= 3; k++) {
+      bench.act(k, 0);
+      bench.law(k, 0);
+    }
+    bench.riddle(3);
+    for (int i = 0; i < 3; i++) bench.ask(i, i, 1, 0);
+    return bench;
+  }
+}
