@@ -162,7 +162,7 @@ public final class ActEdgesTest {
         long all = (1L << rows) - 1;
         ActBench x = States.empty(d);
         States.tellLaw(x, k);
-        States.tellLaw(x, k, k == 1 ? 1 : k == 2 ? 1 : 1);
+        States.tellLaw(x, k, 1);
         check.due("11: without acts, no rows", x.closed(0), 0);
         check.due("11: without acts, one row", x.closed(1), x.lawOf(1));
         States.tellAct(x, 1, d == 2 ? new long[] {1, 0} : new long[] {1, 2, 0});
@@ -391,7 +391,7 @@ public final class ActEdgesTest {
     check.due("16: not of three, three things", x.actsOf(0, 3), -1);
   }
 
-  /** Law l keeps to a thing of its own by its number, so that each bit can be told from the others. */
+  /** All keep a law without rows, so the bit of the one law that has a row can be told from the others. */
   private static void promise16ActsOfMasks() {
     ActBench x = States.empty(2);
     check.due("16: no laws, all bits", x.actsOf(-1, 1), 4);

@@ -9,21 +9,25 @@ final class Check {
     long on(ActBench x);
   }
 
+  static final Map<String, States.State> STATES = allStates();
   private static final int PARTS = 6;
-  private final Map<String, States.State> states = new LinkedHashMap<>();
   private final Map<String, String> untouched = new HashMap<>();
   private int checks = 0;
   private int wrong = 0;
 
-  Check() {
+  private static Map<String, States.State> allStates() {
+    Map<String, States.State> states = new LinkedHashMap<>();
     for (int d = 2; d <= 3; d++) {
       int things = d;
       states.put("empty " + d, () -> States.empty(things));
       states.put("some " + d, () -> States.some(things));
       states.put("full " + d, () -> States.full(things));
+      states.put("rising " + d, () -> States.rising(things));
+      states.put("round " + d, () -> States.round(things));
     }
     states.put("new", ActBench::new);
     states.put("too many", States::tooMany);
+    return states;
   }
 
   void due(String what, long got, long want) {
@@ -40,15 +44,15 @@ final class Check {
 
   /** In each state the call has the told answer, and leaves all as it was. */
   void refusedAnywhere(String what, Call call, long answer) {
-    for (String state : states.keySet()) refusedIn(state, what, call, answer);
+    for (String state : STATES.keySet()) refusedIn(state, what, call, answer);
   }
 
   /** The call has the told answer, and an object that heard it looks like one that did not. */
   void refusedIn(String state, String what, Call call, long answer) {
     for (int part = 0; part < PARTS; part++) {
       int which = part;
-      String plain = untouched.computeIfAbsent(state + "/" + part, key -> look(states.get(state).make(), which));
-      ActBench x = states.get(state).make();
+      String plain = untouched.computeIfAbsent(state + "/" + part, key -> look(STATES.get(state).make(), which));
+      ActBench x = STATES.get(state).make();
       due(what + " (" + state + ")", call.on(x), answer);
       checks++;
       if (!look(x, part).equals(plain)) {

@@ -52,7 +52,9 @@ public final class FaceAndRulesTest {
       }
     }
     say(open.equals(new TreeSet<>(Arrays.asList(FACE.split(" ")))), "the face is " + open);
+    shape(ActBench.class);
     for (Class<?> inside : ActBench.class.getDeclaredClasses()) {
+      shape(inside);
       say(Modifier.isStatic(inside.getModifiers()), inside + " is not static");
       for (Method m : inside.getDeclaredMethods()) hidden.add(m.getName());
     }
@@ -68,6 +70,18 @@ public final class FaceAndRulesTest {
     say(ActBench.class.getDeclaredClasses().length < 13, "too many classes");
   }
 
+  /** Rules 5 and 11: static fields are final, a class has some twenty others, a method at most seven parameters. */
+  private static void shape(Class<?> type) {
+    int fields = 0;
+    for (Field f : type.getDeclaredFields()) {
+      boolean isStatic = Modifier.isStatic(f.getModifiers());
+      say(!isStatic || Modifier.isFinal(f.getModifiers()), "static field " + f);
+      fields += isStatic ? 0 : 1;
+    }
+    say(fields <= 20, type + " has " + fields + " fields");
+    for (Method m : type.getDeclaredMethods()) say(m.getParameterCount() <= 7, m + " has too many parameters");
+  }
+
   private static void source() throws Exception {
     String text = Files.readString(Path.of("src/main/java/ActBench.java"));
     String code = text.replaceAll("(?s)/\\*.*?\\*/", "").replaceAll("//[^\n]*", "");
@@ -78,6 +92,19 @@ public final class FaceAndRulesTest {
     }
     Matcher imports = Pattern.compile("import ([^;]+);").matcher(code);
     while (imports.find()) say(imports.group(1).equals("java.util.Arrays"), "import " + imports.group(1));
+    methodLengths(code.split("\n"));
+  }
+
+  /** Rule 11: methods stay short, some sixty lines; each ends where a brace stands as far in as its head. */
+  private static void methodLengths(String[] lines) {
+    for (int head = 0; head < lines.length; head++) {
+      String line = lines[head];
+      int in = line.length() - line.stripLeading().length();
+      if (!line.endsWith(") {") || in != 4 && in != 8) continue;
+      int end = head + 1;
+      while (end < lines.length && !lines[end].equals(" ".repeat(in) + "}")) end++;
+      say(end - head < 60, "a method of " + (end - head) + " lines: " + line.strip());
+    }
   }
 
   /** Whatever the arguments are, an answer comes; a throw would end this test. */

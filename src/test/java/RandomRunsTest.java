@@ -1,10 +1,12 @@
 import java.util.ArrayList;
 import java.util.List;
 import java.util.Random;
+import java.util.stream.IntStream;
 
 /** Runs of calls, drawn with told seeds, whose answers are held against those of the plain bench. */
 public final class RandomRunsTest {
   private static final int CALLS = 512;
+  private final int seed;
   private final Random random;
   private final ActBench bench = new ActBench();
   private final PlainBench plain = new PlainBench();
@@ -12,24 +14,34 @@ public final class RandomRunsTest {
   private int d = 2;
   private int calls = 0;
   private boolean wrong = false;
+  private long due = 0;
 
-  private RandomRunsTest(long seed) {
+  private RandomRunsTest(int seed) {
+    this.seed = seed;
     random = new Random(seed);
   }
 
   public static void main(String[] args) {
     int from = args.length > 0 ? Integer.parseInt(args[0]) : 0;
     int to = args.length > 1 ? Integer.parseInt(args[1]) : 150;
-    int wrong = 0;
-    long calls = 0;
-    for (int seed = from; seed < to; seed++) {
-      RandomRunsTest run = new RandomRunsTest(seed);
-      run.go();
-      calls += run.calls;
-      if (run.wrong) wrong++;
-    }
+    List<RandomRunsTest> runs = IntStream.range(from, to).parallel().mapToObj(RandomRunsTest::run).toList();
+    long calls = runs.stream().mapToLong(run -> run.calls).sum();
+    long wrong = runs.stream().filter(run -> run.wrong).count();
+    for (RandomRunsTest run : runs) if (run.wrong) run.tell();
     System.out.println((to - from) + " random runs, " + calls + " calls, " + wrong + " runs wrong");
     if (wrong != 0) System.exit(1);
+  }
+
+  private static RandomRunsTest run(int seed) {
+    RandomRunsTest run = new RandomRunsTest(seed);
+    run.go();
+    return run;
+  }
+
+  private void tell() {
+    System.out.println("seed " + seed + ":");
+    for (String line : told) System.out.println(line);
+    System.out.println("the last one is wrong, due is " + due);
   }
 
   private void go() {
@@ -42,17 +54,18 @@ public final class RandomRunsTest {
       else if (pick == 7) raw();
       else if (pick < 10) pose();
       else if (pick == 10 && random.nextInt(6) == 0) fresh(2 + random.nextInt(2));
+      else if (pick == 11 && random.nextInt(12) == 0) tellUntilFull(random.nextInt(3));
       else query();
     }
   }
 
   private void due(String call, long got, long want) {
+    if (wrong) return;
     calls++;
     told.add(call + " = " + got);
-    if (got != want && !wrong) {
+    if (got != want) {
       wrong = true;
-      for (String line : told) System.out.println(line);
-      System.out.println("the last one is wrong, due is " + want);
+      due = want;
     }
   }
 
@@ -62,8 +75,12 @@ public final class RandomRunsTest {
     if (got) d = things;
   }
 
+  /** Mostly 0 to most, at times one beyond, seldom far beyond. */
   private int near(int most) {
-    return random.nextInt(12) == 0 ? random.nextInt(2) == 0 ? -1 : most + 1 : random.nextInt(most + 1);
+    int pick = random.nextInt(60);
+    if (pick == 0) return random.nextInt();
+    if (pick < 5) return pick % 2 == 0 ? -1 : most + 1;
+    return random.nextInt(most + 1);
   }
 
   private void row(int slot, int width, int n) {
@@ -156,6 +173,20 @@ public final class RandomRunsTest {
     }
   }
 
+  /** More acts, laws or asks than there can be. */
+  private void tellUntilFull(int what) {
+    int slot = random.nextInt(8);
+    row(slot, random.nextInt(4), 27 + random.nextInt(14));
+    write(slot, 1 + random.nextInt(2), random.nextInt(d));
+    write(slot, 0, random.nextInt(d));
+    for (int i = what == 0 ? 8 : what == 1 ? 12 : 30; i >= 0; i--) {
+      int u = plain.count(3);
+      if (what == 0) act(1 + random.nextInt(3), slot);
+      else if (what == 1) law(1 + random.nextInt(3), slot);
+      else ask(0, random.nextInt(u), random.nextInt(u), random.nextInt(u));
+    }
+  }
+
   private void raw() {
     int slot = near(7);
     switch (random.nextInt(6)) {
@@ -179,8 +210,12 @@ public final class RandomRunsTest {
       int x = near(most);
       int y = near(most);
       int z = near(most);
-      due("ask(" + l + ", " + x + ", " + y + ", " + z + ")", bench.ask(l, x, y, z), plain.ask(l, x, y, z));
+      ask(l, x, y, z);
     }
+  }
+
+  private void ask(int l, int x, int y, int z) {
+    due("ask(" + l + ", " + x + ", " + y + ", " + z + ")", bench.ask(l, x, y, z), plain.ask(l, x, y, z));
   }
 
   private void query() {

@@ -26,6 +26,8 @@ public final class RiddleEdgesTest {
     promise26NarrowedMostAndNone();
     promise26NarrowedOneThatStandsTwice();
     promise26NarrowedFarAlong();
+    promise26NarrowedOneByOne();
+    promise26NarrowedThreePlaces();
     promise26NarrowedRefusals();
     promise27AnswersMostAndNone();
     promise28AnswerFirstAndLast();
@@ -401,6 +403,33 @@ public final class RiddleEdgesTest {
       for (int u = 0; u < 8; u++) check.due("26: the last is 0, so all are", x.narrowed(u), 1);
       x.ask(2, 0, 0, 0);
       for (int u = 0; u < 8; u++) check.due("26: the first is 2, so none is left", x.narrowed(u), 0);
+    }
+  }
+
+  /** Things go one by one: 0 from the first unknown to the last, then 1, as the first needs the last's 0 for it. */
+  private static void promise26NarrowedOneByOne() {
+    ActBench x = States.empty(3);
+    States.tellLaw(x, 2, 0, 11, 2, 12, 22);
+    States.tellLaw(x, 2, 0, 10, 20, 1, 2, 12, 22);
+    States.tellLaw(x, 1, 1, 2);
+    x.riddle(8);
+    for (int u = 6; u >= 0; u--) x.ask(0, u, u + 1, 0);
+    x.ask(1, 7, 0, 0);
+    for (int u = 0; u < 8; u++) check.due("26: all are left", x.narrowed(u), 7);
+    x.ask(2, 0, 0, 0);
+    for (int u = 0; u < 8; u++) check.due("26: only 2 is left", x.narrowed(u), 4);
+  }
+
+  /** Of three places: a row counts only if all three unknowns have its things. */
+  private static void promise26NarrowedThreePlaces() {
+    for (int closed = 0; closed < 3; closed++) {
+      ActBench x = States.empty(3);
+      States.tellLaw(x, 3, 0, 111, 222);
+      States.tellLaw(x, 1, 0, 2);
+      x.riddle(3);
+      x.ask(0, 0, 1, 2);
+      x.ask(1, closed, 0, 0);
+      for (int u = 0; u < 3; u++) check.due("26: 1 is gone from all three", x.narrowed(u), 5);
     }
   }
 

@@ -1,6 +1,5 @@
 /** Boundary cases of promises 1 to 7: new objects, slots, and what is told by them. */
 public final class SlotEdgesTest {
-  private static final int[] ODD = {Integer.MIN_VALUE, -1, Integer.MAX_VALUE};
   private static final Check check = new Check();
 
   public static void main(String[] args) {
@@ -342,7 +341,7 @@ public final class SlotEdgesTest {
       check.refusedIn("some 3", "6: a row of one number", x -> x.act(places, 4), -6);
     }
     check.refusedIn("some 3", "6: no thing", x -> x.act(2, 0), -4);
-    check.refusedIn("some 2", "6: a row that ends", x -> x.act(3, 0), -4);
+    check.refusedIn("some 2", "6: no thing ahead of where the row ends", x -> x.act(3, 0), -4);
   }
 
   private static void promise6ActEightAndTwoOfThree() {

@@ -8,8 +8,10 @@ final class States {
   private States() {
   }
 
+  /** It had the other number of things before, of which nothing may be left. */
   static ActBench empty(int d) {
     ActBench x = new ActBench();
+    x.fresh(5 - d);
     x.fresh(d);
     return x;
   }
@@ -97,6 +99,27 @@ final class States {
     tellAct(x, 2, 1, 1, 0, 1, 2, 2, 0, 2, 0);
     tellAct(x, 1, 1, 2, 0);
     warm(x);
+    return x;
+  }
+
+  /** A riddle that is quick by a half and a most: each unknown is at most the next. */
+  static ActBench rising(int d) {
+    ActBench x = empty(d);
+    tellLaw(x, 2, d == 2 ? new int[] {0, 1, 11} : new int[] {0, 1, 2, 11, 12, 22});
+    x.riddle(3);
+    x.ask(0, 0, 1, 0);
+    x.ask(0, 1, 2, 0);
+    return x;
+  }
+
+  /** A riddle that is quick by a most and the sum: each unknown is one more than the next, round. */
+  static ActBench round(int d) {
+    ActBench x = empty(d);
+    tellAct(x, 3, d == 2 ? new long[] {0, 1, 1, 0, 1, 0, 0, 1} : new long[27]);
+    tellLaw(x, 2, d == 2 ? new int[] {1, 10} : new int[] {1, 12, 20});
+    x.riddle(3);
+    x.ask(0, 1, 0, 0);
+    x.ask(0, 2, 1, 0);
     return x;
   }
 

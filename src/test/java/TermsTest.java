@@ -1,5 +1,6 @@
 /** The terms 1 to 4, as far as they name limits, and what is said of all calls. */
 public final class TermsTest {
+  private static final int ASKING = 25;
   private static final Check check = new Check();
 
   public static void main(String[] args) {
@@ -16,12 +17,13 @@ public final class TermsTest {
     term3PairingPlaceByPlace();
     term3SumOfNoPlaces();
     term4AnswersFitAllAsks();
+    term4AnswersInAnyOrderOfUnknowns();
     term4NarrowedIsNotSolved();
     term4HalfTakesAnyTwoFirst();
     term4QuickLooksAtAskedLawsAlone();
     allCallsUpToThe512th();
     allMemoryIsItsOwn();
-    answersDoNotDependOnCallsBetween();
+    askingChangesNothing();
     check.end("terms");
   }
 
@@ -98,6 +100,9 @@ public final class TermsTest {
       check.due("Terms 1: three rows in one order", x.keeps(0, 0), 0);
       States.tellLaw(x, 3, 0, 11, 110);
       check.due("Terms 1: rows without 2 make 0s alone", x.keeps(0, 1), 1);
+      // The three rows in each turn have the told order at one place and 0s come at the others.
+      long come = 1 | 1 << 5 | 1 << 15 | 1 << 19 | 1 << 18 | 1 << 6 | 1 << 2;
+      check.due("Terms 1: what comes of them", x.closed(0), come);
     }
   }
 
@@ -267,6 +272,26 @@ public final class TermsTest {
     for (int u = 0; u < 8; u++) check.due("Terms 4: which each ask alone does not see", x.narrowed(u), 3);
   }
 
+  /** The asked row is 0, 1, 2, so each unknown has the thing that its place in the ask tells. */
+  private static void term4AnswersInAnyOrderOfUnknowns() {
+    int[][] orders = {{0, 1, 2}, {0, 2, 1}, {1, 0, 2}, {1, 2, 0}, {2, 0, 1}, {2, 1, 0}};
+    int[] weights = {9, 3, 1};
+    for (int[] order : orders) {
+      ActBench x = States.empty(3);
+      States.tellLaw(x, 3, 12);
+      States.tellLaw(x, 2, 12);
+      x.riddle(3);
+      x.ask(0, order[0], order[1], order[2]);
+      check.due("Terms 4: one answer", x.answers(), 1);
+      check.due("Terms 4: the answer", x.answer(0), weights[order[1]] + 2 * weights[order[2]]);
+      for (int p = 0; p < 3; p++) check.due("Terms 4: narrowed", x.narrowed(order[p]), 1 << p);
+      x.riddle(3);
+      x.ask(1, order[0], order[1], 0);
+      check.due("Terms 4: three answers", x.answers(), 3);
+      check.due("Terms 4: the first", x.answer(0), weights[order[0]] + 2 * weights[order[1]]);
+    }
+  }
+
   private static void term4NarrowedIsNotSolved() {
     ActBench x = States.empty(3);
     States.tellLaw(x, 2, 1, 2, 10, 12, 20, 21);
@@ -278,10 +303,9 @@ public final class TermsTest {
     for (int u = 0; u < 4; u++) check.due("Terms 4: all are left", x.narrowed(u), 7);
   }
 
-  /** With h(0, 1) = 2, h(0, 2) = 0, h(1, 2) = 1 all holds but that any two may be taken first. */
+  /** Of three things that all differ a half would have to tell the third for any two, which is none then. */
   private static void term4HalfTakesAnyTwoFirst() {
     ActBench x = States.empty(3);
-    // The laws leave one act alone that tells a for a, a and is the same turned: this one.
     States.tellLaw(x, 3, 12, 21, 102, 120, 201, 210);
     x.riddle(3);
     x.ask(0, 0, 1, 2);
@@ -367,27 +391,53 @@ public final class TermsTest {
   }
 
   /** Calls that only ask may come in any order and again, and answer the same. */
-  private static void answersDoNotDependOnCallsBetween() {
-    String[] states = {"new", "empty 3", "some 2", "some 3", "full 2", "full 3", "too many"};
-    for (String state : states) {
-      check.refusedIn(state, "asking changes nothing", TermsTest::askAround, 0);
+  private static void askingChangesNothing() {
+    for (String state : Check.STATES.keySet()) {
+      long[] alone = new long[ASKING];
+      for (int call = 0; call < ASKING; call++) alone[call] = asking(Check.STATES.get(state).make(), call);
+      for (int first = 0; first < ASKING; first++) {
+        for (int call = 0; call < ASKING; call++) {
+          ActBench x = Check.STATES.get(state).make();
+          asking(x, first);
+          check.due("call " + call + " behind call " + first + " (" + state + ")", asking(x, call), alone[call]);
+        }
+      }
     }
+    check.refusedAnywhere("asking changes nothing", TermsTest::askAll, 0);
   }
 
-  private static long askAround(ActBench x) {
-    x.actsOf(1, 2);
-    x.quick(1);
-    x.made(2);
-    x.answers();
-    x.actOf(2, 1, 0);
-    x.laws(2);
-    x.closed(0);
-    x.narrowed(0);
-    x.size(1, 3);
-    x.quick(2);
-    x.keeps(0, 0);
-    x.heap(1);
-    x.pairing(0);
-    return x.answer(-1) + 1;
+  private static long askAll(ActBench x) {
+    for (int call = 0; call < ASKING; call++) asking(x, call);
+    return 0;
+  }
+
+  private static long asking(ActBench x, int call) {
+    switch (call) {
+      case 0: return x.actsOf(1, 1);
+      case 1: return x.actsOf(-1, 2);
+      case 2: return x.actsOf(2, 3);
+      case 3: return x.actOf(0, 1, 1);
+      case 4: return x.actOf(1, 2, 2);
+      case 5: return x.quick(0);
+      case 6: return x.quick(1);
+      case 7: return x.quick(2);
+      case 8: return x.made(1);
+      case 9: return x.made(2);
+      case 10: return x.made(3);
+      case 11: return x.madeOf(2, 2, 0);
+      case 12: return x.size(1, 0);
+      case 13: return x.answers();
+      case 14: return x.answer(1);
+      case 15: return x.narrowed(0);
+      case 16: return x.laws(1);
+      case 17: return x.laws(2);
+      case 18: return x.closed(0);
+      case 19: return x.closed(2);
+      case 20: return x.keeps(0, 0);
+      case 21: return x.heaps();
+      case 22: return x.pairings();
+      case 23: return x.at(0, 1);
+      default: return x.lawOf(0);
+    }
   }
 }
