@@ -950,7 +950,8 @@ public final class ActBench {
     private static final class Maker {
         static final int LIMIT = 256;
         private static final int MOST_SIZE = 1000000;
-        private static final int NO_CEILING = Integer.MAX_VALUE;
+        /** More than three made ones of the most size and one more come to. */
+        private static final int NO_CEILING = 4 * MOST_SIZE;
         private Base base = new Base();
         private final int[] codes = new int[LIMIT + 1];
         private final int[] sizes = new int[LIMIT + 1];
@@ -1240,7 +1241,7 @@ public final class ActBench {
 
         void findAll(Found out) {
             out.clear();
-            gather(0, 0, out);
+            gather(this, 0, 0, out);
         }
 
         /** Leaves in values the first that the form suits; false if there is none. */
@@ -1251,29 +1252,29 @@ public final class ActBench {
                     return false;
                 }
             }
-            return seek(form.constants, form);
+            return seek(this, form.constants, form);
         }
 
-        private void gather(int depth, int number, Found out) {
-            if (depth >= variables) {
+        private static void gather(Net net, int depth, int number, Found out) {
+            if (depth >= net.variables) {
                 out.add(number);
                 return;
             }
-            for (int v = 0; v < d; v++) {
-                values[depth] = v;
-                if (fits(depth)) {
-                    gather(depth + 1, number * d + v, out);
+            for (int v = 0; v < net.d; v++) {
+                net.values[depth] = v;
+                if (net.fits(depth)) {
+                    gather(net, depth + 1, number * net.d + v, out);
                 }
             }
         }
 
-        private boolean seek(int depth, Form form) {
-            if (depth >= variables) {
-                return form.suits(values, d);
+        private static boolean seek(Net net, int depth, Form form) {
+            if (depth >= net.variables) {
+                return form.suits(net.values, net.d);
             }
-            for (int v = 0; v < d; v++) {
-                values[depth] = v;
-                if (fits(depth) && seek(depth + 1, form)) {
+            for (int v = 0; v < net.d; v++) {
+                net.values[depth] = v;
+                if (net.fits(depth) && seek(net, depth + 1, form)) {
                     return true;
                 }
             }

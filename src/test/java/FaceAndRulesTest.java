@@ -19,6 +19,9 @@ public final class FaceAndRulesTest {
     + "keeps(int,int)int law(int,int)int lawOf(int)long laws(int)int made(int)int madeOf(int,int,int)int narrowed(int)int "
     + "pairing(int)int pairings()int quick(int)long riddle(int)boolean row(int,int,int)int signs(int)int size(int,int)int "
     + "tear(int)boolean whole()int write(int,int,long)int";
+  private static final Set<String> LIBRARY = Set.of("Arrays.fill", "Arrays.copyOf", "Arrays.copyOfRange", "System.arraycopy",
+    "Math.min", "Math.max", "Math.abs", "Math.floorMod", "Math.floorDiv", "Integer.bitCount", "Integer.compare",
+    "Integer.min", "Integer.max", "Long.bitCount", "Long.compare", "Long.min", "Long.max");
   private static final String[] BARRED = {"throw", "throws", "try", "catch", "synchronized", "assert", "->", "::",
     "Exact", "volatile", "System.currentTimeMillis", "Random", "Thread", "protected"};
   private static int wrong = 0;
@@ -92,19 +95,56 @@ public final class FaceAndRulesTest {
     }
     Matcher imports = Pattern.compile("import ([^;]+);").matcher(code);
     while (imports.find()) say(imports.group(1).equals("java.util.Arrays"), "import " + imports.group(1));
-    methodLengths(code.split("\n"));
+    methods(code.split("\n"));
+    library(code);
+    loops(code);
   }
 
-  /** Rule 11: methods stay short, some sixty lines; each ends where a brace stands as far in as its head. */
-  private static void methodLengths(String[] lines) {
+  /** Rule 4: functions that are listed, and no constants of the library. */
+  private static void library(String code) {
+    Matcher used = Pattern.compile("\\b([A-Z]\\w*)\\s*\\.\\s*(\\w+)(\\s*\\()?").matcher(code);
+    Set<String> own = new TreeSet<>();
+    for (Class<?> inside : ActBench.class.getDeclaredClasses()) own.add(inside.getSimpleName());
+    while (used.find()) {
+      if (own.contains(used.group(1))) continue;
+      String name = used.group(1) + "." + used.group(2);
+      say(used.group(3) != null && LIBRARY.contains(name), "the library's " + name + " is not listed");
+    }
+  }
+
+  /** Rule 9: a loop's end is seen from its own lines: each is a for with a bound. */
+  private static void loops(String code) {
+    say(!Pattern.compile("\\b(while|do)\\b").matcher(code).find(), "a loop that is no for");
+    Matcher heads = Pattern.compile("\\bfor \\(([^;]*);([^;]*);").matcher(code);
+    int found = 0;
+    while (heads.find()) {
+      found++;
+      say(heads.group(2).matches("(?s).*(<|>|<=|>=) .*"), "a loop without a bound: " + heads.group());
+    }
+    Matcher all = Pattern.compile("\\bfor\\b").matcher(code);
+    while (all.find()) found--;
+    say(found == 0, "a loop of another form");
+  }
+
+  /** Each method ends where a brace stands as far in as its head. */
+  private static void methods(String[] lines) {
     for (int head = 0; head < lines.length; head++) {
       String line = lines[head];
       int in = line.length() - line.stripLeading().length();
-      if (!line.endsWith(") {") || in != 4 && in != 8) continue;
+      if (!line.endsWith(") {") || in != 4 && in != 8 || line.strip().matches("(if|for|switch|}) .*")) continue;
       int end = head + 1;
       while (end < lines.length && !lines[end].equals(" ".repeat(in) + "}")) end++;
-      say(end - head < 60, "a method of " + (end - head) + " lines: " + line.strip());
+      method(line.strip(), Arrays.copyOfRange(lines, head + 1, end));
     }
+  }
+
+  /** Rule 11: some sixty lines. Rule 8: one that calls itself is private and static, and carries its depth. */
+  private static void method(String head, String[] body) {
+    say(body.length < 60, "a method of " + body.length + " lines: " + head);
+    String before = head.substring(0, head.indexOf('('));
+    String name = before.substring(before.lastIndexOf(' ') + 1);
+    boolean callsItself = Pattern.compile("(?<![\\w.])" + name + "\\(").matcher(String.join("\n", body)).find();
+    say(!callsItself || head.startsWith("private static") && head.contains("int depth"), "calls itself: " + head);
   }
 
   /** Whatever the arguments are, an answer comes; a throw would end this test. */
