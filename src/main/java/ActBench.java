@@ -950,8 +950,8 @@ public final class ActBench {
     private static final class Maker {
         static final int LIMIT = 256;
         private static final int MOST_SIZE = 1000000;
-        /** More than three made ones of the most size and one more come to. */
-        private static final int NO_CEILING = 4 * MOST_SIZE;
+        /** One more than an act and three made ones of the most size come to. */
+        private static final int NO_CEILING = 3 * MOST_SIZE + 2;
         private Base base = new Base();
         private final int[] codes = new int[LIMIT + 1];
         private final int[] sizes = new int[LIMIT + 1];
